@@ -33,8 +33,8 @@ public final class UpwardGrants {
     private static final int MOST_UNDONE = 8;
     private static final int REPORT_ROOM = 2;
     private static final int ASKED_GRANT = 4;
-    // A terminal makes one block a step at most, and none lives longer than
-    // BACK times TRIES less 1 steps, 18: so 3 times 19 is never passed.
+    // A terminal makes one block a step at most, and each is gone 18 steps behind its
+    // making (BACK times TRIES less 1): so 3 times 19 are the most while a step goes on.
     private static final int MOST_BLOCKS = 60;
 
     private final Text text = new Text();
@@ -309,24 +309,20 @@ public final class UpwardGrants {
 
     private boolean explainsAllSeen(int t) {
         for (int i = 0; i < seen && i < MOST_SEEN; i++) {
-            if (throughWithout(t, seenSteps[i]) != seenLetters[i]) {
+            trialState.copyFrom(state);
+            trialState.makeDeaf(t, state.now, state.now + seenSteps[i] - 1);
+            if (trial.takeSteps(seenSteps[i]) != seenLetters[i]) {
                 return false;
             }
         }
         return true;
     }
 
-    private int throughWithout(int t, int n) {
-        trialState.copyFrom(state);
-        trialState.makeDeaf(t, state.now, Math.min(LAST_STEP, state.now + n - 1));
-        return trial.takeSteps(n);
-    }
-
     private static boolean isWithin(int number, int least, int most) {
         return number >= least && number <= most;
     }
 
-    /** What the text tells; none of it but ROOM (which is the first state's) changes till it is read anew. */
+    /** What the text told. The room here is the one told; what widens makes of it is the state's. */
     private static final class Setup {
         int terminals;
         int classes;
@@ -408,32 +404,30 @@ public final class UpwardGrants {
             return before;
         }
 
-        /** How many items there are, or FAULT_BASE less the place of the token at which reading stopped. */
+        /**
+         * How many items there are, or FAULT_BASE less the place of the token at which reading stopped:
+         * each item's reader leaves at false, so the token read last is the one that can't stand there.
+         */
         int readInto(Setup told) {
             told.begin();
             place = 0;
             for (int items = 0; items <= MOST_TEXT; items++) {
                 nextToken();
-                if (token == END) {
-                    return items;
+                boolean isRight = false;
+                switch (token) {
+                    case END: return items;
+                    case 't': isRight = readTerminal(told); break;
+                    case 'c': isRight = readClass(told); break;
+                    case 's': isRight = readRoom(told); break;
+                    case 'b': isRight = readBan(told); break;
+                    case 'r': isRight = readBackAndTries(told); break;
+                    default: break;
                 }
-                if (!readItem(told) || !readEnd()) {
+                if (!isRight || !readEnd()) {
                     return FAULT_BASE - tokenPlace;
                 }
             }
             return FAULT_BASE - tokenPlace;
-        }
-
-        /** Each item's reader leaves at false: then the token read last is the one that can't stand there. */
-        private boolean readItem(Setup told) {
-            switch (token) {
-                case 't': return readTerminal(told);
-                case 'c': return readClass(told);
-                case 's': return readRoom(told);
-                case 'b': return readBan(told);
-                case 'r': return readBackAndTries(told);
-                default: return false;
-            }
         }
 
         private boolean readTerminal(Setup told) {
@@ -560,10 +554,6 @@ public final class UpwardGrants {
         private final int[] report = new int[MOST_BLOCKS];
         private final int[] letters = new int[MOST_BLOCKS * MOST_CLASSES];
 
-        boolean has(int k) {
-            return k >= 0 && k < size && k < MOST_BLOCKS;
-        }
-
         /** A new block with nothing in it yet; -1 if there is no place for one. */
         int open(int t) {
             if (size < 0 || size >= MOST_BLOCKS) {
@@ -582,7 +572,7 @@ public final class UpwardGrants {
         }
 
         boolean isDue(int k, int t, int step) {
-            return has(k) && terminal[k] == t && due[k] == step;
+            return k >= 0 && k < MOST_BLOCKS && terminal[k] == t && due[k] == step;
         }
 
         void putLetters(int k, int c, int many) {
@@ -597,6 +587,14 @@ public final class UpwardGrants {
             return at >= 0 && at < letters.length ? letters[at] : 0;
         }
 
+        void addLettersTo(int[] row, int k) {
+            int first = k * MOST_CLASSES;
+            for (int c = 0; c < MOST_CLASSES && c < row.length; c++) {
+                int at = first + c;
+                row[c] += at >= 0 && at < letters.length ? letters[at] : 0;
+            }
+        }
+
         int allLetters(int k) {
             int first = k * MOST_CLASSES;
             int all = 0;
@@ -607,13 +605,13 @@ public final class UpwardGrants {
         }
 
         void putReport(int k, int says) {
-            if (has(k)) {
+            if (k >= 0 && k < MOST_BLOCKS) {
                 report[k] = says;
             }
         }
 
         int reportOf(int k) {
-            return has(k) ? report[k] : NONE;
+            return k >= 0 && k < MOST_BLOCKS ? report[k] : NONE;
         }
 
         int content(int k) {
@@ -622,7 +620,7 @@ public final class UpwardGrants {
 
         /** One more sending of it: how many that makes. */
         int countSending(int k) {
-            if (!has(k)) {
+            if (k < 0 || k >= MOST_BLOCKS) {
                 return 0;
             }
             sent[k]++;
@@ -630,14 +628,14 @@ public final class UpwardGrants {
         }
 
         void putDue(int k, int step) {
-            if (has(k)) {
+            if (k >= 0 && k < MOST_BLOCKS) {
                 due[k] = step;
             }
         }
 
         /** It stays in the row till dropGone(), so that the places of the others hold while a step goes on. */
         void markGone(int k) {
-            if (has(k)) {
+            if (k >= 0 && k < MOST_BLOCKS) {
                 due[k] = GONE;
             }
         }
@@ -654,7 +652,7 @@ public final class UpwardGrants {
         }
 
         private void move(int from, int to) {
-            if (from == to || !has(from) || !has(to)) {
+            if (to < 0 || to >= from || from >= MOST_BLOCKS) {
                 return;
             }
             terminal[to] = terminal[from];
@@ -688,7 +686,7 @@ public final class UpwardGrants {
         }
 
         int told(int k, int what) {
-            if (!has(k)) {
+            if (k < 0 || k >= MOST_BLOCKS) {
                 return NONE;
             }
             switch (what) {
@@ -964,31 +962,20 @@ public final class UpwardGrants {
         }
 
         private void send(int k, int t) {
-            int sendings = state.blocks.countSending(k);
-            boolean isHeard = !state.isDeaf(t, state.now);
-            if (!isHeard && sendings < setup.tries) {
-                state.blocks.putDue(k, state.now + setup.back);
-                return;
-            }
-            if (isHeard) {
-                thinkAnew(k, t);
-                addLetters(k, state.through);
+            Blocks blocks = state.blocks;
+            int sendings = blocks.countSending(k);
+            if (!state.isDeaf(t, state.now)) {
+                int says = blocks.reportOf(k);
+                int less = Math.max(0, state.thought[t] - blocks.allLetters(k));
+                state.thought[t] = says == NONE ? less : says;
+                blocks.addLettersTo(state.through, k);
+                blocks.markGone(k);
+            } else if (sendings < setup.tries) {
+                blocks.putDue(k, state.now + setup.back);
             } else {
                 state.wants[t] = 1;
-                addLetters(k, state.lost);
-            }
-            state.blocks.markGone(k);
-        }
-
-        private void thinkAnew(int k, int t) {
-            int says = state.blocks.reportOf(k);
-            int less = Math.max(0, state.thought[t] - state.blocks.allLetters(k));
-            state.thought[t] = says == NONE ? less : says;
-        }
-
-        private void addLetters(int k, int[] row) {
-            for (int c = 0; c < MOST_CLASSES && c < row.length; c++) {
-                row[c] += state.blocks.lettersOf(k, c);
+                blocks.addLettersTo(state.lost, k);
+                blocks.markGone(k);
             }
         }
     }

@@ -15,6 +15,7 @@ public final class DoneTest {
         repeated();
         repeatedInOrder();
         lostAtOnce();
+        mostBlocks();
         stepsEdges();
         deafening();
         widening();
@@ -351,6 +352,28 @@ public final class DoneTest {
         CHECK.due("the report did not keep it from wanting", x.terminal(0, 1), 1);
         CHECK.due("nothing is thought", x.terminal(0, 4), 0);
         CHECK.due("steps(2)", x.steps(2), 7);
+    }
+
+    /** Three terminals make a block in each step, and each block is on the way in 18. */
+    private static void mostBlocks() {
+        UpwardGrants x = Check.told("t1;t1;t1;c0 0 0 0;c1 0 0 0;c2 0 0 0;s60;b0;r6 4;");
+        for (int t = 0; t < 3; t++) {
+            x.comes(t, 3);
+        }
+        x.steps(1);
+        for (int t = 0; t < 3; t++) {
+            x.deafens(t, 1, 199);
+        }
+        for (int step = 1; step <= 22; step++) {
+            x.steps(1);
+            CHECK.due("blocks behind step " + step, x.count(7), 3 * Math.min(step, 18));
+            CHECK.due("lost behind step " + step, x.sort(2, 7), step < 19 ? 0 : 1);
+        }
+        block(x, 0, 0, 23, 3, 2, 0);
+        block(x, 3, 1, 23, 3, 2, 0);
+        block(x, 2, 0, 23, 1, 2, 0);
+        block(x, 53, 2, 28, 1, 2, 0);
+        block(x, 54, -9);
     }
 
     private static void stepsEdges() {

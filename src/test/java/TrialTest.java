@@ -68,7 +68,7 @@ public final class TrialTest {
         CHECK.due("enough(1)", x.enough(1), -9);
         CHECK.due("enough(2)", x.enough(2), 8);
         CHECK.due("enough(3)", x.enough(3), 4);
-        CHECK.due("enough(9)", x.enough(9), 2 + 1 - 1);
+        CHECK.due("enough(9)", x.enough(9), 2);
         CHECK.due("enough(10)", x.enough(10), 1);
         CHECK.due("enough(40)", x.enough(40), 1);
         CHECK.refused(x, "enough(-1)", () -> x.enough(-1), -1);
