@@ -68,10 +68,18 @@ final class Check {
         return all.toString();
     }
 
-    /** A call that is refused answers so, and what is shown stays. */
+    /** A call that is refused answers so, and no count changes; Tale.refused looks at all the rest, too. */
     void refused(UpwardGrants x, String call, java.util.function.IntSupplier does, int want) {
-        String before = shown(x);
+        String before = counts(x);
         due(call, does.getAsInt(), want);
-        due(call + " changes nothing", shown(x).equals(before) ? 1 : 0, 1);
+        due(call + " changes no count", counts(x).equals(before) ? 1 : 0, 1);
+    }
+
+    private static String counts(UpwardGrants x) {
+        StringBuilder all = new StringBuilder();
+        for (int what = 6; what <= 11; what++) {
+            all.append(x.count(what)).append(' ');
+        }
+        return all.toString();
     }
 }

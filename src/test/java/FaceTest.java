@@ -23,7 +23,9 @@ public final class FaceTest {
         constants();
         members();
         nestedClasses();
-        words(new String(Files.readAllBytes(Path.of("src/main/java/UpwardGrants.java")), StandardCharsets.ISO_8859_1));
+        String source = new String(Files.readAllBytes(Path.of("src/main/java/UpwardGrants.java")), StandardCharsets.ISO_8859_1);
+        words(source);
+        methodsAreShort(source);
         CHECK.end();
     }
 
@@ -82,8 +84,25 @@ public final class FaceTest {
             CHECK.due("some twenty fields at most: " + one, own <= 20 ? 1 : 0, 1);
             for (Method method : one.getDeclaredMethods()) {
                 CHECK.due("seven parameters at most: " + method, method.getParameterCount() <= 7 ? 1 : 0, 1);
+                for (String shown : METHODS) {
+                    boolean like = shown.startsWith(method.getName() + " ");
+                    CHECK.due("the name of a public method, " + method, like ? 1 : 0, 0);
+                }
             }
         }
+    }
+
+    /** A method begins behind a line that ends with ") {" and has a name and no keyword ahead, and ends with its indent. */
+    private static void methodsAreShort(String source) {
+        Matcher methods = Pattern.compile("(?m)^( +)(?:[\\w\\[\\]]+ )*\\w+\\([^()]*\\) \\{\\n(?s:.*?)^\\1\\}$").matcher(source);
+        int found = 0;
+        while (methods.find()) {
+            found++;
+            long lines = methods.group().lines().count();
+            CHECK.due("some sixty lines at most, not " + lines + ": " + methods.group().lines().findFirst().get(),
+                    lines <= 60 ? 1 : 0, 1);
+        }
+        CHECK.due("methods are found", found > 60 ? 1 : 0, 1);
     }
 
     private static void words(String source) {
