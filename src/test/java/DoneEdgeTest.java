@@ -29,6 +29,7 @@ public final class DoneEdgeTest {
         otherCallsAreNotUndone();
         sortEdges();
         sortOfEachKind();
+        sortOfAllBlocks();
         terminalEdges();
         terminalOfEachKind();
         blockEdges();
@@ -225,6 +226,13 @@ public final class DoneEdgeTest {
     private static void sortOfEachKind() {
         busy("0 TERMINAL, 1 PRIORITY, 2 RATE, 3 LIMIT, 4 WAIT, 5 TOKENS, 6 THROUGH, 7 LOST, 8 ON THE WAY")
                 .row("sort 0", 0, 1, 7, 2, 9, 1, 2, 2, 0, 0).row("sort 1", 0, 0, 3, 1, 5, 22, 0, 2, 0, 6);
+    }
+
+    /** Three blocks without a report, of 3, 2 and 2 letters, beside another class that has none on the way. */
+    private static void sortOfAllBlocks() {
+        told("8 ON THE WAY, in all BLOCKS", "t1;c0 0 0 0;c0 1 0 0;s60;b0;r6 4;").does("comes 0 9", "steps 1", "deafens 0 1 9", "widens 3",
+                "steps 1").due("sort 0 8", 3).does("widens 2", "steps 1").due("sort 0 8", 5).does("steps 1").due("sort 0 8", 7)
+                .due("sort 1 8", 0).row("sort 0", 4, 0, 0, 2, 0, 7).due("terminal 0 8", 3).due("count 7", 3);
     }
 
     // ---- promise 11: terminal
