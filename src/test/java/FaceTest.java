@@ -15,7 +15,7 @@ import java.util.regex.Pattern;
 public final class FaceTest {
     private static final Check CHECK = new Check("FaceTest");
 
-    private static final String[] METHODS = {"type 1", "clear 0", "cell 0", "comes 2", "steps 1", "deafens 3",
+    static final String[] METHODS = {"type 1", "clear 0", "cell 0", "comes 2", "steps 1", "deafens 3",
         "widens 1", "undo 0", "sort 2", "terminal 2", "block 2", "deaf 2", "drain 0", "enough 1", "ahead 2", "sees 2",
         "forget 0", "unseen 0", "keep 1", "back 1", "count 1"};
 
